@@ -933,7 +933,6 @@ public final class OldestFirst {
             if (letter >= MOST_TOLD) {
                 return fail(ONE_TOO_MANY);
             }
-            town.openLetter(letter);
             step();
             if (!takePerson(NONE)) {
                 return false;
@@ -1176,14 +1175,6 @@ public final class OldestFirst {
             System.arraycopy(other.after, 0, after, 0, MOST_LETTERS);
             System.arraycopy(other.worth, 0, worth, 0, MOST_LETTERS);
             System.arraycopy(other.by, 0, by, 0, MOST_LETTERS);
-        }
-
-        /** A letter with nothing of what may be left untold. */
-        void openLetter(int letter) {
-            after[letter] = NONE;
-            worth[letter] = 0;
-            by[letter] = NONE;
-            told[letter + MOST_TOLD] = 0;
         }
 
         /** Its answer is a letter, too. */

@@ -218,6 +218,7 @@ public final class BoundariesTest {
     Due.feed(x, most + times(" ", 2400 - most.length()));
     is("2,400 bytes", x.count(6), 2400);
     is("34 lines, the most", x.town(), 34);
+    nothingOfAnother();
     doc.says(4, "(0: there is none then).");
     is("an empty tape", x.town(), 0);
     noTown(x);
@@ -248,6 +249,34 @@ public final class BoundariesTest {
     x.end(1);
     is("a fault in no lines", x.town(), -4);
     is("lines stay", x.count(5), 3);
+  }
+
+  /** A text with all that may be told, whether it is a town or has a fault, leaves nothing in the next one. */
+  private static void nothingOfAnother() {
+    String wishes = "letter 1 to 0 on 1 hours 9 back 9 after 1 worth 99 by 1;";
+    String all = "town days 9 post 9; person hours 9 short; person hours 9 worrier;" + times("person hours 9 clerk 0;", 6) + times(wishes, 24) + "law lot 77;";
+    String bare = "town days 2 post 1;" + times("person hours 1 full;", 8) + times("letter 0 to 1 on 0 hours 1;", 24);
+    for (int end = 0; end < 2; end++) {
+      OldestFirst x = new OldestFirst();
+      Due.feed(x, all.substring(0, all.length() - end));
+      is("all that may be told", x.town(), end == 0 ? 34 : -4);
+      x.end(0);
+      Due.feed(x, bare);
+      is("the bare one", x.town(), 33);
+      int[] letter = {0, 1, 0, 1, 0, NONE, 0, NONE};
+      for (int l = 0; l < 24; l++) {
+        for (int what = 0; what < 8; what++) is("letter(" + l + ", " + what + ") behind another", x.letter(l, what), letter[what]);
+        is("letter " + (24 + l) + " behind another", x.letter(24 + l, 0), -2);
+      }
+      int[] person = {1, 0, NONE};
+      for (int p = 0; p < 8; p++) {
+        for (int what = 0; what < 3; what++) is("person(" + p + ", " + what + ") behind another", x.person(p, what), person[what]);
+      }
+      int[] count = {8, 24, 2, 1, 0, 33, 0, 1, 0};
+      for (int what = 0; what < 9; what++) is("count(" + what + ") behind another", x.count(what), count[what]);
+      is("worth behind another", x.worth(), 0);
+      is("hours behind another", x.answered(1), 1);
+    }
   }
 
   private static void fault() {
@@ -336,6 +365,14 @@ public final class BoundariesTest {
     is("back", z.letter(0, 4), 98);
     is("none", x.letter(1, 4), 0);
     is("none of an answer", z.letter(24, 4), 0);
+    StringBuilder b = new StringBuilder(THREE);
+    for (int l = 0; l < 24; l++) b.append("letter 0 to 1 on 0 hours 1 back ").append(99 - l).append(';');
+    OldestFirst backs = Due.townOf(b.toString());
+    for (int l = 0; l < 24; l++) {
+      is("back of " + l, backs.letter(l, 4), 99 - l);
+      is("hours of its answer", backs.letter(24 + l, 3), 99 - l);
+      is("back of its answer", backs.letter(24 + l, 4), 0);
+    }
     doc.says(7, "5: after whom (NONE),");
     is("nobody", z.letter(0, 5), NONE);
     is("somebody", Due.townOf(THREE + "letter 0 to 1 on 0 hours 1 after 0;").letter(0, 5), 0);
@@ -543,6 +580,10 @@ public final class BoundariesTest {
     x.law(1);
     is("newest: the answer", x.under(47, 1), 0);
     is("newest: letter 0", x.under(0, 1), 23);
+    OldestFirst seven = Due.townOf("town days 2 post 1;" + times("person hours 1 full;", 8) + "letter 7 to 1 on 0 hours 9; letter 0 to 7 on 1 hours 9; letter 1 to 7 on 0 hours 9;");
+    is("of the last one of eight", seven.under(1, 1), 1);
+    is("the older one", seven.under(2, 1), 0);
+    is("of another", seven.under(0, 1), 0);
     doc.says(17, "NONE: it does not lie there, the LAW is lot;");
     is("answered", x.under(23, 1), NONE);
     is("not yet come", x.under(47, 0), NONE);
@@ -678,6 +719,13 @@ public final class BoundariesTest {
     x = Due.townOf("town days 40 post 1; person hours 1 full; person hours 1 full; letter 0 to 1 on 1 hours 2; letter 0 to 1 on 1 hours 3; letter 0 to 1 on 9 hours 1;");
     is("1 and 4 and 0", x.sum(1), 5);
     is("4", x.sum(2), 4);
+    // 24 told letters, 12 on each of two days; the answer of the first is answered on day 3.
+    x = Due.townOf("town days 5 post 1; person hours 1 full; person hours 12 full; letter 0 to 1 on 0 hours 1 back 3;" + times("letter 0 to 1 on 0 hours 1;", 23));
+    is("the answer", x.answered(24), 3);
+    is("all of 24, no answer", x.sum(0), 24);
+    is("12 on the day behind", x.sum(1), 12);
+    is("one day the most", x.sum(2), 1);
+    is("24 by another law", x.by(1, 0, 2), 24);
     doc.says(23, "-2 likewise.");
     OldestFirst y = edge();
     doc.bounds("what", 0, 2, -2, y::sum);
@@ -770,6 +818,14 @@ public final class BoundariesTest {
     is("seven, another day", Due.townOf(six(1)).order(1, 0), 6);
     is("seven, another person", Due.townOf(six(1)).order(0, 1), 6);
     is("seven, nobody", Due.townOf(six(1)).order(2, 1), -2);
+    OldestFirst seven = Due.townOf(six(1));
+    for (int again = 0; again < 2; again++) {
+      is("one", seven.order(0, 0), 6);
+      is("seven behind one", seven.order(1, 1), -3);
+      is("seven again", seven.order(1, 1), -3);
+      is("place of seven", seven.place(1, 1, 0), -3);
+      is("worst of seven", seven.worst(1, 1), -3);
+    }
   }
 
   private static void place() {
@@ -778,7 +834,15 @@ public final class BoundariesTest {
     // The last three must be first; 4, 5, 6 in any order, then 1, 2, 3: the first such order.
     int[] first = {4, 5, 6, 1, 2, 3};
     for (int i = 0; i < 6; i++) is("place " + i, x.place(1, 1, i), first[i]);
-    for (int i : new int[] {6, 7, 100, HIGH}) is("place " + i, x.place(1, 1, i), NONE);
+    for (int i : new int[] {6, 7, 100, HIGH, -1, LOW}) is("place " + i, x.place(1, 1, i), NONE);
+    StringBuilder b = new StringBuilder("town days 6 post 1; person hours 1 full; person hours 1 full;");
+    for (int i = 0; i < 6; i++) b.append("letter 0 to 1 on 0 hours 1 worth 1 by ").append(5 - i).append(';');
+    OldestFirst last = Due.townOf(b.toString());
+    is("by the last of all orders alone", last.order(1, 0), 6);
+    for (int i = 0; i < 6; i++) is("the last order, place " + i, last.place(1, 0, i), 5 - i);
+    last.law(1);
+    is("by the first of all orders alone", last.order(1, 0), 6);
+    for (int i = 0; i < 6; i++) is("the first order, place " + i, last.place(1, 0, i), i);
     is("none comes", x.place(1, 0, 0), NONE);
     is("one comes", x.place(0, 0, 0), 0);
     is("one comes, the next", x.place(0, 0, 1), NONE);
@@ -823,6 +887,8 @@ public final class BoundariesTest {
     is("no hour more", x.longest(1), 2);
     x = Due.townOf("town days 9 post 1; person hours 1 full; person hours 11 full; letter 0 to 1 on 0 hours 5 worth 1;");
     is("99 of 99", x.longest(0), 99);
+    is("99 of 108", Due.townOf("town days 9 post 1; person hours 1 full; person hours 12 full; letter 0 to 1 on 0 hours 5 worth 1;").longest(0), 99);
+    is("98 of 99, 1 is taken", Due.townOf("town days 9 post 1; person hours 1 full; person hours 11 full; letter 1 to 0 on 0 hours 1; letter 0 to 1 on 0 hours 1; letter 0 to 1 on 0 hours 5 worth 1;").longest(2), 98);
     x = Due.townOf("town days 9 post 1; person hours 1 full; person hours 10 full; letter 0 to 1 on 0 hours 5 worth 1 by 8; letter 0 to 1 on 0 hours 1 worth 1;");
     is("one is left for the other", x.longest(0), 89);
     is("1", Due.townOf("town days 2 post 1; person hours 1 full; person hours 1 full; letter 0 to 1 on 1 hours 1 worth 1;").longest(0), 1);
@@ -842,8 +908,10 @@ public final class BoundariesTest {
     is("on the last day", x.just(1, 2, 1), 2);
     is("all stays", x.letter(0, 3), 2);
     x = Due.townOf("town days 9 post 1; person hours 1 full; person hours 11 full; letter 0 to 1 on 0 hours 5;");
-    is("98 of 99 are not all", x.just(0, 7, 1), 88);
+    is("88 by the day ahead", x.just(0, 7, 1), 88);
     is("99 of 99", x.just(0, 8, 1), 99);
+    is("99 of 108", Due.townOf("town days 9 post 1; person hours 1 full; person hours 12 full; letter 0 to 1 on 0 hours 5;").just(0, 8, 1), 99);
+    is("1 is the greatest, too", Due.townOf(TWO + "letter 0 to 1 on 0 hours 5;").just(0, 0, 1), 1);
     doc.says(30, "NONE: by none;");
     x = edge();
     is("ahead of its day, least", x.just(1, 1, 0), NONE);
@@ -854,6 +922,7 @@ public final class BoundariesTest {
     doc.bounds("letter", 0, 1, -2, l -> y.just(l, 0, 0));
     doc.bounds("day", 0, 2, -2, day -> y.just(0, day, 0));
     doc.bounds("day, the greatest", 0, 2, -2, day -> y.just(0, day, 1));
+    doc.bounds("what", 0, 1, -2, what -> y.just(0, 0, what));
     is("an answer", y.just(24, 2, 0), -2);
   }
 
@@ -882,6 +951,8 @@ public final class BoundariesTest {
     is("1 and 2", x.stop(0, 1, 0, 2, 1), 3);
     is("1 no more, nor 0: 4 less 0, 4 less 1", x.stop(0, 1, 0, 99, 1), 7);
     is("none", x.stop(1, 2, 0, 99, 1), 0);
+    OldestFirst full = Due.townOf("town days 5 post 1; person hours 1 full; person hours 12 full; law newest; letter 0 to 1 on 0 hours 1 back 3;" + times("letter 0 to 1 on 0 hours 1;", 23));
+    for (int what = 0; what < 4; what++) is("an answer later is no told letter: " + what, full.stop(1, 0, 2, 1, what), 0);
     doc.says(31, "2: to whom (bits),");
     is("1", x.stop(0, 1, 0, 2, 2), 2);
     is("nobody", x.stop(1, 2, 0, 99, 2), 0);
@@ -969,6 +1040,9 @@ public final class BoundariesTest {
     // Letter 0 is never answered; from day 1 on each visit gives as much, but a later one loses no hours.
     x = Due.townOf("town days 5 post 1; person hours 2 full; person hours 2 full; letter 0 to 1 on 1 hours 99 worth 5;");
     is("the first of several", x.pays(0, 24), 1);
+    is("the first day of all", Due.townOf(TWO + "letter 0 to 1 on 0 hours 99 worth 5;").pays(0, 24), 0);
+    is("the first day alone", Due.townOf(TWO + "letter 0 to 1 on 0 hours 2 worth 5 by 0;").pays(0, 24), 0);
+    is("the last day alone", Due.townOf(TWO + "letter 0 to 1 on 3 hours 2 worth 5 by 3;").pays(0, 24), 3);
     x = Due.townOf("town days 5 post 1; person hours 2 full; person hours 2 full; letter 0 to 1 on 1 hours 99 worth 5; letter 1 to 0 on 0 hours 8 worth 1 by 3;");
     is("the first costs hours", x.pays(0, 1), 4);
     is("no hours", x.pays(0, 0), 1);
@@ -988,6 +1062,12 @@ public final class BoundariesTest {
     is("the first of several", Due.townOf(many + "letter 0 to 1 on 0 hours 99 worth 5; letter 0 to 2 on 1 hours 99 worth 5;").instead(24), 0);
     is("the most", Due.townOf(many + "letter 0 to 1 on 0 hours 99 worth 5; letter 0 to 2 on 2 hours 99 worth 6;").instead(24), 1);
     is("the last of 24", Due.townOf(many + times("letter 0 to 1 on 2 hours 99 worth 1;", 23) + "letter 0 to 1 on 2 hours 99 worth 2;").instead(1), 23);
+    is("on the first day alone", Due.townOf(many + "letter 1 to 0 on 0 hours 1; letter 0 to 1 on 0 hours 2 worth 5 by 0;").instead(24), 1);
+    is("on the last day alone", Due.townOf(many + "letter 1 to 0 on 0 hours 1; letter 0 to 1 on 2 hours 2 worth 5;").instead(24), 1);
+    // By newest the answer, of 9 hours, lies ahead of 22 and 23; nobody goes to see anybody for an answer.
+    // For letter 0, which brings it, 0 would have to leave letter 1.
+    is("a told letter", Due.townOf("town days 9 post 1; person hours 1 full; person hours 2 full; law newest; letter 0 to 1 on 0 hours 1 back 9;"
+        + "letter 1 to 0 on 0 hours 1 worth 99 by 0;" + times("letter 0 to 1 on 5 hours 1;", 20) + times("letter 1 to 0 on 1 hours 1 worth 9 by 2;", 2)).instead(1), 22);
     is("none pays", Due.townOf(many + "letter 0 to 1 on 0 hours 1 worth 5;").instead(0), NONE);
     is("nothing is worth anything", Due.townOf(many + "letter 0 to 1 on 0 hours 99;").instead(0), NONE);
     is("no letters", Due.townOf(many).instead(0), NONE);
@@ -1008,6 +1088,10 @@ public final class BoundariesTest {
     is("on the last morning", x.burn(1, 3), 1);
     is("another's", x.burn(0, 1), 1);
     is("all stays", x.pile(1, 3), 14);
+    for (int p = 0; p < 8; p += 7) {
+      x = Due.townOf("town days 4 post 1;" + times("person hours 1 full;", 8) + "letter 3 to " + p + " on 0 hours 9; letter 3 to " + p + " on 1 hours 1 worth 5;");
+      is("person " + p, x.burn(p, 1), 5);
+    }
     // He has heard from whom he needs, though that letter is burnt.
     x = Due.townOf(THREE + "letter 2 to 1 on 0 hours 9; letter 0 to 1 on 1 hours 1 after 2 worth 5;");
     is("heard is heard", x.burn(1, 1), 5);
@@ -1126,6 +1210,19 @@ public final class BoundariesTest {
       for (int i = 0; i < n; i++) x.write(1, i, i < 3 ? done[i] : 0);
       is("a row of " + n, x.judge(1), Math.min(3, n));
     }
+    // Answer 24 is answered between 0 and 1.
+    OldestFirst y = edge();
+    y.hours(1, 2);
+    y.row(0, 0, 3);
+    y.write(0, 1, 1);
+    is("told letters alone", y.judge(0), 2);
+    y.write(0, 1, 24);
+    is("no answers", y.judge(0), 1);
+    x.hours(1, 99);
+    x.write(0, 1, 2);
+    is("other hours", x.judge(0), 2);
+    x.hours(1, 1);
+    is("the hours again", x.judge(0), 1);
     OldestFirst none = Due.townOf(TWO + "letter 0 to 1 on 0 hours 9;");
     none.row(0, 0, 5);
     is("none is answered", none.judge(0), 0);
@@ -1143,9 +1240,9 @@ public final class BoundariesTest {
     is("no town, no slot", nobody.judge(4), -2);
     doc.says(39, "-6: it has nothing.");
     for (int slot = 0; slot < 4; slot++) is("nothing in " + slot, edge().judge(slot), -6);
-    OldestFirst y = edge();
-    y.row(2, 0, 0);
-    is("no numbers are not nothing", y.judge(2), 0);
+    OldestFirst empty = edge();
+    empty.row(2, 0, 0);
+    is("no numbers are not nothing", empty.judge(2), 0);
   }
 
   // ---- counts, images, slots

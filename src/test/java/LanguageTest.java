@@ -25,6 +25,12 @@ public final class LanguageTest {
     Matcher imports = Pattern.compile("import ([^;]+);").matcher(code);
     while (imports.find()) due.is("import " + imports.group(1), imports.group(1).equals("java.util.Arrays") ? 1 : 0, 1);
     due.is("signs beyond 127", text.chars().filter(c -> c > 126).count(), 0);
+    // The room of a run is bounded: rows are made with the object, and no call makes another one.
+    Matcher made = Pattern.compile("\n([^\n]*)\\bnew ").matcher(code);
+    while (made.find()) {
+      boolean atOnce = made.group(1).matches(" +(private )?final .* = ") || made.group(1).matches(" +(images\\[k\\]|slots\\[s\\]) = ");
+      due.is("made with the object:" + made.group(1), atOnce ? 1 : 0, 1);
+    }
     face();
     methods(code);
     due.close("LanguageTest");

@@ -1,6 +1,8 @@
 import java.math.BigInteger;
 import java.util.ArrayList;
 import java.util.List;
+import java.util.Random;
+import java.util.function.ToLongFunction;
 
 /** The terms (I to VI) of the document, sentence by sentence, at the edges that they name. */
 public final class TermsTest {
@@ -145,6 +147,10 @@ public final class TermsTest {
     x = doc.fine(9, TOWN + times("person hours 1 full;", 7) + "person hours 1 clerk 6;");
     is("the last clerk", x.person(7, 2), 6);
     doc.fault(2, TOWN + times("person hours 1 full;", 7) + "person hours 1 clerk ^7;");
+    String seven = TOWN + times("person hours 1 full;", 7) + "person hours 1 ";
+    for (int k = 0; k < 4; k++) is("the last is " + kinds[k], doc.fine(9, seven + kinds[k] + ";").person(7, 1), k);
+    is("the last is a clerk", doc.fine(9, seven + "clerk 0;").person(7, 1), 4);
+    is("of the first", doc.fine(9, seven + "clerk 0;").person(7, 2), 0);
   }
 
   private static void numbersOfLetters() {
@@ -272,10 +278,30 @@ public final class TermsTest {
     doc.fault(1, "^townd ays 9 post 2;");
     doc.fault(1, "^towndays 9 post 2;");
     doc.fault(1, "^t own days 9 post 2;");
+    for (char sign : new char[] {'a', 'z'}) {
+      doc.fault(1, "^town" + sign + " days 9 post 2;");
+      doc.fault(1, "^" + sign + "town days 9 post 2;");
+    }
+    for (char digit : new char[] {'0', '9'}) doc.fault(2, "town days ^41" + digit + "post 2;");
+    spoilEveryWord(LETTER + "back 2 after 2 worth 3 by 4;" + "person hours 1 short;person hours 1 sunday;person hours 1 worrier;person hours 1 clerk 0;law lot 5;");
+    for (String law : new String[] {"oldest", "newest", "dearest"}) spoilEveryWord(TOWN + "law " + law + ";");
     doc.fault(1, "town days 3 ^2 post 2;");
     doc.fault(2, "town days ^99 post 2;");
     doc.fault(1, TOWN + "person hours 1 ^fulllaw oldest;");
     is("leading noughts", doc.fine(1, "town days 009 post 02;").count(2), 9);
+  }
+
+  /** A word with one sign otherwise is another word. */
+  private static void spoilEveryWord(String text) {
+    int start = 0;
+    for (int i = 0; i < text.length(); i++) {
+      if (!Character.isLetter(text.charAt(i))) {
+        start = i + 1;
+      } else {
+        char other = text.charAt(i) == 'q' ? 'x' : 'q';
+        doc.fault(1, text.substring(0, start) + "^" + text.substring(start, i) + other + text.substring(i + 1));
+      }
+    }
   }
 
   private static void faults() {
@@ -363,6 +389,23 @@ public final class TermsTest {
     is("pile(1, 1)", x.pile(1, 1), 1);
     is("pile(2, 1)", x.pile(2, 1), 0);
     is("pile(2, 2)", x.pile(2, 2), 2);
+    x = Due.townOf("town days 40 post 1;" + PLAIN + "letter 0 to 1 on 39 hours 1; letter 0 to 2 on 39 hours 9; letter 2 to 0 on 38 hours 1 back 9;");
+    is("on the last of forty", x.answered(0), 39);
+    is("and lies there", x.pile(2, 39), 2 + (1L << 26));
+    is("heard then", x.heard(1, 0), 39);
+    is("an answer on it", x.letter(26, 2), 39);
+    is("and lies there, too", x.needs(26, 39), 9);
+    is("heard from then on", x.heard(2, 0), 39);
+    // Large piles side by side: 0 to 19 lie with one, 20 to 23 with the next.
+    for (int p = 0; p < 7; p++) {
+      String there = "town days 20 post 1;" + times("person hours 1 full;", 8);
+      there += times("letter " + (p + 2) % 8 + " to " + p + " on 0 hours 1;", 20) + times("letter " + (p + 2) % 8 + " to " + (p + 1) + " on 0 hours 1;", 4);
+      x = Due.townOf(there);
+      for (int day = 0; day < 20; day++) {
+        is("the large pile of " + p + " behind " + day, x.pile(p, day), 0xfffffL & -2L << day);
+        is("the pile of " + (p + 1) + " behind " + day, x.pile(p + 1, day), 0xf00000L & -2L << 20 + day);
+      }
+    }
   }
 
   private static void heard() {
@@ -657,7 +700,9 @@ public final class TermsTest {
   // ---- V
 
   private static void oneLetterMore() {
-    doc.says("V", "In thought: one LETTER more: as LETTER 48, of worth 0, that wants nothing.");
+    doc.says("V", "In thought:");
+    thoughtsLeaveNothing();
+    doc.says("V", "one LETTER more: as LETTER 48, of worth 0, that wants nothing.");
     StringBuilder b = new StringBuilder("town days 5 post 1; person hours 1 full; person hours 1 worrier; person hours 1 short;");
     for (int l = 0; l < 23; l++) b.append("letter 0 to 2 on 4 hours 99;");
     b.append("letter 0 to 1 on 1 hours 1 worth 9 by 1;");
@@ -680,6 +725,63 @@ public final class TermsTest {
     is("too late", x.stop(0, 1, 0, 2, 3), 0);
     is("it is heard itself", x.stop(1, 0, 1, 1, 3), -9);
     is("too late, too", x.stop(1, 0, 3, 1, 3), 0);
+    // 48 ahead of 0 on day 0; the answer of 24 comes on day 3, and nothing with it that would hold up letter 1.
+    x = Due.townOf("town days 5 post 1; person hours 1 full; person hours 1 full; law newest; letter 0 to 1 on 0 hours 1 back 1; letter 0 to 1 on 3 hours 1;");
+    is("it comes once", x.stop(0, 1, 0, 1, 0), 1);
+  }
+
+  /** Whatever was thought of ahead, each thought answers as it does in a new object. */
+  private static void thoughtsLeaveNothing() {
+    Random r = new Random(48);
+    for (int i = 0; i < 12; i++) {
+      String text = Plain.random(r, 3 + i % 4).text();
+      List<ToLongFunction<OldestFirst>> thoughts = thoughts(Due.townOf(text));
+      long[] alone = new long[thoughts.size()];
+      for (int a = 0; a < alone.length; a++) alone[a] = thoughts.get(a).applyAsLong(Due.townOf(text));
+      for (int a = 0; a < alone.length; a++) {
+        OldestFirst x = Due.townOf(text);
+        for (int b = 0; b < alone.length; b++) {
+          is("thought " + a + " of " + text, thoughts.get(a).applyAsLong(x), alone[a]);
+          is("thought " + b + " behind " + a + " of " + text, thoughts.get(b).applyAsLong(x), alone[b]);
+        }
+      }
+    }
+  }
+
+  private static List<ToLongFunction<OldestFirst>> thoughts(OldestFirst town) {
+    int letter = town.count(1) - 1;
+    int to = town.letter(letter, 1);
+    int on = town.letter(letter, 2);
+    int from = town.letter(letter, 0);
+    List<ToLongFunction<OldestFirst>> all = new ArrayList<>();
+    all.add(OldestFirst::worth);
+    all.add(OldestFirst::stuck);
+    all.add(x -> x.sum(1));
+    all.add(x -> x.answered(letter));
+    for (int law = 0; law < 4; law++) {
+      int other = law;
+      all.add(x -> x.by(other, 12345, 0));
+    }
+    all.add(OldestFirst::best);
+    all.add(x -> x.order(to, on));
+    all.add(x -> x.worst(to, on));
+    all.add(x -> x.place(to, on, 0));
+    all.add(x -> x.longest(letter));
+    all.add(x -> x.longest(0));
+    all.add(x -> x.just(letter, 1, 1));
+    all.add(x -> x.just(letter, x.count(2) - 1, 1));
+    all.add(x -> x.stop(from, to, 0, 99, 1));
+    all.add(x -> x.stop(to, from, 0, 99, 3));
+    all.add(x -> x.hold(from, to, 0, letter, x.count(2) - 1));
+    all.add(x -> x.visit(letter, on, 24));
+    all.add(x -> x.visit(0, x.letter(0, 2), 24));
+    all.add(x -> x.pays(letter, 1));
+    all.add(x -> x.instead(1));
+    all.add(x -> x.burn(to, 1));
+    all.add(x -> x.burn(from, 1));
+    all.add(x -> x.untie(1));
+    all.add(x -> x.chance(letter, 7, 3, 1));
+    return all;
   }
 
   private static void visits() {
