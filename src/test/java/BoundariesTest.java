@@ -818,6 +818,13 @@ public final class BoundariesTest {
     is("seven, another day", Due.townOf(six(1)).order(1, 0), 6);
     is("seven, another person", Due.townOf(six(1)).order(0, 1), 6);
     is("seven, nobody", Due.townOf(six(1)).order(2, 1), -2);
+    for (int again = 0; again < 2; again++) {
+      is("of 1 on day 1", full.order(1, 1), 4 + 5 + 6);
+      is("of another on that day", full.order(0, 1), 6);
+      is("of 1 on day 1 again", full.order(1, 1), 4 + 5 + 6);
+      is("of him on another day", full.order(1, 0), 6);
+      is("of another on another day", full.order(0, 0), 6);
+    }
     OldestFirst seven = Due.townOf(six(1));
     for (int again = 0; again < 2; again++) {
       is("one", seven.order(0, 0), 6);
@@ -846,6 +853,13 @@ public final class BoundariesTest {
     is("none comes", x.place(1, 0, 0), NONE);
     is("one comes", x.place(0, 0, 0), 0);
     is("one comes, the next", x.place(0, 0, 1), NONE);
+    OldestFirst apart = Due.townOf(THREE + "letter 0 to 1 on 0 hours 1; letter 0 to 2 on 0 hours 1; letter 0 to 1 on 1 hours 1;");
+    int[][] alone = {{1, 0, 0}, {2, 0, 1}, {1, 1, 2}, {2, 1, NONE}, {0, 0, NONE}};
+    for (int[] a : alone) {
+      is("to " + a[0] + " on " + a[1], apart.place(a[0], a[1], 0), a[2]);
+      is("to " + a[0] + " on " + a[1] + ", the next", apart.place(a[0], a[1], 1), NONE);
+    }
+    for (int n = 2; n <= 6; n++) everyOrder(new int[n], 0, 0);
     x.law(1);
     // By newest the last of the order is answered first: 4, 5, 6 must be the last three; 1, 2, 3 ahead.
     for (int i = 0; i < 6; i++) is("by newest, place " + i, x.place(1, 1, i), i + 1);
@@ -855,6 +869,29 @@ public final class BoundariesTest {
     doc.bounds("day", 0, 2, -2, day -> y.place(0, day, 0));
     is("nobody, no place", y.place(2, 0, 9), -2);
     for (int i : new int[] {0, 6, 7, HIGH}) is("place " + i + " of seven", Due.townOf(six(1)).place(1, 1, i), -3);
+  }
+
+  /** Each letter is due on the day on which it is answered by one order alone; of six not all orders are asked for. */
+  private static void everyOrder(int[] order, int n, int used) {
+    if (n < order.length) {
+      for (int l = 0; l < order.length; l++) {
+        order[n] = l;
+        if ((used >> l & 1) == 0) everyOrder(order, n + 1, used | 1 << l);
+      }
+      return;
+    }
+    int sum = 0;
+    int[] due = new int[n];
+    for (int i = 0; i < n; i++) {
+      due[order[i]] = i;
+      sum = sum * 6 + order[i];
+    }
+    if (n == 6 && sum % 11 != 0) return;
+    StringBuilder b = new StringBuilder("town days " + n + " post 1; person hours 1 full; person hours 1 full;");
+    for (int l = 0; l < n; l++) b.append("letter 0 to 1 on 0 hours 1 worth 1 by ").append(due[l]).append(';');
+    OldestFirst x = Due.townOf(b.toString());
+    is("all in time of " + b, x.order(1, 0), n);
+    for (int i = 0; i < n; i++) is("place " + i + " of " + b, x.place(1, 0, i), order[i]);
   }
 
   private static void worst() {
@@ -990,9 +1027,14 @@ public final class BoundariesTest {
     String far = "town days 9 post 1; person hours 1 full; person hours 11 full; law newest; letter 0 to 1 on 0 hours 1;";
     is("99", Due.townOf(far).hold(0, 1, 0, 0, 8), 99);
     is("98", Due.townOf(far.replace("hours 1;", "hours 2;")).hold(0, 1, 0, 0, 8), 98);
+    // What 2 writes to 1 lets him answer what waits for 2, as soon as it is answered itself.
+    OldestFirst after = Due.townOf(THREE + "law newest; letter 0 to 1 on 0 hours 1 after 2;");
+    is("from whom he waits for", after.hold(2, 1, 0, 0, 3), 4);
+    is("from another", after.hold(0, 1, 0, 0, 3), 1);
     doc.says(32, "NONE: by none.");
     is("100", Due.townOf(far.replace("days 9", "days 10").replace("11 full", "10 full")).hold(0, 1, 0, 0, 9), NONE);
     is("too late", x.hold(0, 1, 1, 1, 3), NONE);
+    is("behind it, from whom he waits for", Due.townOf(THREE + "letter 0 to 1 on 0 hours 1 after 2;").hold(2, 1, 0, 0, 0), NONE);
     is("to another", x.hold(0, 2, 0, 1, 3), NONE);
     doc.says(32, "-2: there are none such, one twice.");
     OldestFirst z = edge();
@@ -1118,6 +1160,20 @@ public final class BoundariesTest {
         + "letter 0 to 1 on 0 hours 1 after 2; letter 0 to 2 on 0 hours 1 after 3; letter 0 to 3 on 0 hours 1 after 1;");
     is("one of 3, 4, 5", x.untie(0), 1);
     is("3", x.untie(1), 8);
+    // 1 has two letters that wait for 2: without both nobody is stuck, but without the one of 2 nobody is either.
+    x = Due.townOf(RING.replace("letter 0 to 1 on 0 hours 1 after 2;", "letter 0 to 1 on 0 hours 1 after 2;".repeat(2)));
+    is("the fewest, not the least", x.untie(0), 1);
+    is("2 alone, not 0 and 1", x.untie(1), 4);
+    // 1, 2 and 3 stand still, each for himself; 4 never ends what he has.
+    x = Due.townOf(TWO + times("person hours 1 full;", 3) + "letter 0 to 1 on 0 hours 1 after 2; letter 0 to 2 on 0 hours 1 after 1;"
+        + times("letter 0 to 4 on 0 hours 99;", 2) + "letter 0 to 3 on 0 hours 1 after 1;");
+    is("three of five", x.untie(0), 3);
+    is("0, 1 and 4", x.untie(1), 19);
+    // 1 would be busy with letter 1, if it came ahead of letter 2; each comes on its own day.
+    x = Due.townOf("town days 9 post 1; person hours 1 full; person hours 1 full; person hours 1 full;"
+        + "letter 0 to 2 on 0 hours 1; letter 0 to 1 on 5 hours 99; letter 0 to 1 on 2 hours 1 after 2;");
+    is("one of two", x.untie(0), 1);
+    is("2, which came first", x.untie(1), 4);
     doc.says(37, "NONE: without none of their sets;");
     // 0 has heard from 2 by letter 1 alone, which waits for 3; without it 0 waits for 2.
     x = Due.townOf(TWO + times("person hours 1 full;", 2) + "letter 1 to 0 on 0 hours 1 after 2; letter 2 to 0 on 0 hours 1 after 3;");

@@ -527,6 +527,15 @@ public final class TermsTest {
     is("for nobody", x.waits(1, 0), NONE);
     is("his day is over", x.idle(1, 0), 3);
     is("P is stuck, he is not", x.stuck(), 1);
+    x = Due.townOf(people + "letter 1 to 0 on 0 hours 1; letter 1 to 0 on 0 hours 1 after 2;");
+    is("P has no hours left, and stands still for nobody", x.waits(0, 0), NONE);
+    is("nor does he", x.waits(1, 0), NONE);
+    is("his day is over all the same", x.idle(1, 0), 4);
+    is("P does on the next day", x.waits(0, 1), 2);
+    x = Due.townOf(people + "letter 1 to 0 on 3 hours 1; letter 1 to 0 on 3 hours 1 after 2;");
+    is("nobody is stuck for what he can't answer", x.stuck(), 0);
+    x = Due.townOf("town days 2 post 1; person hours 1 full; person hours 1 full; person hours 4 clerk 1; letter 2 to 1 on 1 hours 1; letter 2 to 1 on 1 hours 1 after 0;");
+    is("nor on the second day", x.stuck(), 0);
     x = Due.townOf(people + "letter 2 to 0 on 0 hours 5 after 2;");
     is("P has heard, he has not", x.answered(0), 0);
     is("he never has", x.heard(1, 2), NONE);
@@ -547,6 +556,11 @@ public final class TermsTest {
     is("a day too late", x.comes(0), NONE);
     is("never heard", x.heard(0, 1), NONE);
     is("no letter", x.letter(24, 2), NONE);
+    x = Due.townOf("town days 2 post 1; person hours 1 full; person hours 12 full;" + times("letter 0 to 1 on 0 hours 1 back 1;", 12));
+    for (int l = 0; l < 12; l++) {
+      is("of one of many on a day", x.comes(l), 1);
+      is("comes on the last", x.letter(24 + l, 2), 1);
+    }
     doc.says("II", "Of a LETTER with back it is a LETTER, too, 24 and the number of the LETTER, of as many hours as back, that wants nothing, of worth 0.");
     StringBuilder b = new StringBuilder("town days 40 post 1; person hours 12 worrier; person hours 12 full; person hours 1 full;");
     b.append("letter 0 to 1 on 0 hours 1 back 99 after 0 worth 99 by 1;");
@@ -598,6 +612,9 @@ public final class TermsTest {
     answeredOn("behind each", people.replace("hours 1 full;", "hours 2 full;") + "letter 0 to 1 on 0 hours 1; letter 0 to 1 on 0 hours 1; letter 0 to 1 on 0 hours 1;", 0, 1, 0);
     // 0 draws 16838 of 3 ahead of 1, who draws 5758 of 3; then 10113 of 2, 17515 of 2; 31051 and 5627 of 1.
     answeredOn("one row of draws for all", people + times("letter 1 to 0 on 0 hours 1;", 3) + times("letter 0 to 1 on 0 hours 1;", 3), 2, 1, 0, 2, 0, 1);
+    // A clerk draws of the other's pile: 16838 of 4, 5758 of 3 by the clerk; 10113 of 2, 17515 of 1 by the clerk.
+    answeredOn("by a clerk", "town days 9 post 1; law lot 1; person hours 1 full; person hours 1 clerk 0; person hours 1 full;"
+        + times("letter 2 to 0 on 0 hours 1;", 4), 1, 0, 0, 1);
     // Nobody draws from an empty pile, nor without hours: 1 draws 16838 of 3 on a sunday, behind 0.
     answeredOn("without hours", "town days 9 post 1; law lot 1; person hours 1 sunday; person hours 1 full;"
         + "letter 1 to 0 on 6 hours 1;" + times("letter 0 to 1 on 6 hours 1;", 3), 7, 8, 7, 6);
@@ -800,6 +817,11 @@ public final class TermsTest {
     is("as it is", x.worth(), 0);
     is("at once", x.visit(0, 1, 0), 7);
     is("not yet there", x.visit(0, 0, 0), 0);
+    x = Due.townOf("town days 4 post 3; person hours 2 full; person hours 1 full; person hours 1 full;"
+        + "letter 2 to 1 on 0 hours 9; letter 0 to 1 on 0 hours 9; letter 2 to 0 on 0 hours 2 after 1 worth 7 by 2;");
+    is("he who wrote it, from to whom it is", x.visit(1, 2, 0), 7);
+    is("not he who wrote another", x.visit(0, 2, 0), 0);
+    is("a day too late", x.visit(1, 3, 0), 0);
     // The answer of letter 0 holds 0 up, by newest: without one letter 1 is in time.
     x = Due.townOf("town days 4 post 1; person hours 1 full; person hours 1 full; law newest;"
         + "letter 0 to 1 on 0 hours 1 back 9; letter 1 to 0 on 0 hours 3 worth 7 by 3;");
