@@ -3,7 +3,7 @@ public final class BoundariesTest {
   private static final int NONE = -1;
   private static final int LOW = Integer.MIN_VALUE;
   private static final int HIGH = Integer.MAX_VALUE;
-  private static final Sentences doc = new Sentences("BoundariesTest");
+  private static final Sentences doc = new Sentences("BoundariesTest", "[0-9]+");
 
   // 1 answers letter 0 on day 0, 0 its answer (24) on day 1; letter 1 comes on the last day and needs an hour more.
   private static final String EDGE = "town days 3 post 1; person hours 2 full; person hours 2 full;"
@@ -860,6 +860,8 @@ public final class BoundariesTest {
       is("to " + a[0] + " on " + a[1] + ", the next", apart.place(a[0], a[1], 1), NONE);
     }
     for (int n = 2; n <= 6; n++) everyOrder(new int[n], 0, 0);
+    is("the last person on the last day", Due.townOf("town days 40 post 1;" + times("person hours 1 full;", 8)
+        + times("letter 0 to 7 on 39 hours 1;", 2) + "letter 0 to 7 on 39 hours 1 worth 1;").place(7, 39, 0), 2);
     x.law(1);
     // By newest the last of the order is answered first: 4, 5, 6 must be the last three; 1, 2, 3 ahead.
     for (int i = 0; i < 6; i++) is("by newest, place " + i, x.place(1, 1, i), i + 1);
@@ -887,11 +889,19 @@ public final class BoundariesTest {
       sum = sum * 6 + order[i];
     }
     if (n == 6 && sum % 11 != 0) return;
-    StringBuilder b = new StringBuilder("town days " + n + " post 1; person hours 1 full; person hours 1 full;");
-    for (int l = 0; l < n; l++) b.append("letter 0 to 1 on 0 hours 1 worth 1 by ").append(due[l]).append(';');
+    inTimeBy(order, due, 1, 0);
+    inTimeBy(order, due, 7, 9);
+  }
+
+  private static void inTimeBy(int[] order, int[] due, int person, int day) {
+    int n = order.length;
+    StringBuilder b = new StringBuilder("town days " + (day + n) + " post 1;" + times("person hours 1 full;", person + 1));
+    for (int l = 0; l < n; l++) {
+      b.append("letter 0 to ").append(person).append(" on ").append(day).append(" hours 1 worth 1 by ").append(day + due[l]).append(';');
+    }
     OldestFirst x = Due.townOf(b.toString());
-    is("all in time of " + b, x.order(1, 0), n);
-    for (int i = 0; i < n; i++) is("place " + i + " of " + b, x.place(1, 0, i), order[i]);
+    is("all in time of " + b, x.order(person, day), n);
+    for (int i = 0; i < n; i++) is("place " + i + " of " + b, x.place(person, day, i), order[i]);
   }
 
   private static void worst() {

@@ -7,7 +7,7 @@ import java.util.function.ToLongFunction;
 /** The terms (I to VI) of the document, sentence by sentence, at the edges that they name. */
 public final class TermsTest {
   private static final int NONE = -1;
-  private static final Sentences doc = new Sentences("TermsTest");
+  private static final Sentences doc = new Sentences("TermsTest", "[IV]+");
 
   private static final String TOWN = "town days 9 post 2;";
   private static final String THREE = TOWN + "person hours 1 full;person hours 1 full;person hours 1 full;";
@@ -773,8 +773,19 @@ public final class TermsTest {
     List<ToLongFunction<OldestFirst>> all = new ArrayList<>();
     all.add(OldestFirst::worth);
     all.add(OldestFirst::stuck);
+    all.add(x -> x.ring(0));
+    all.add(x -> x.late(1));
     all.add(x -> x.sum(1));
     all.add(x -> x.answered(letter));
+    all.add(x -> x.comes(letter));
+    all.add(x -> x.needs(letter, on));
+    all.add(x -> x.pile(to, on));
+    all.add(x -> x.idle(to, on));
+    all.add(x -> x.waits(to, on));
+    all.add(x -> x.top(to, on));
+    all.add(x -> x.under(letter, on));
+    all.add(x -> x.heard(to, from));
+    all.add(x -> x.heard(from, to));
     for (int law = 0; law < 4; law++) {
       int other = law;
       all.add(x -> x.by(other, 12345, 0));

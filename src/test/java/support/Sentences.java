@@ -9,8 +9,8 @@ import java.util.regex.Pattern;
 
 /**
  * Answers that are due, each told under the sentence of the document that it holds. A quotation that the
- * document does not have, a sentence without an answer and a part of the document that no test quotes are
- * faults of the test.
+ * document does not have, a sentence without an answer and a part of what the test is for that it does not quote
+ * are faults of the test.
  */
 final class Sentences {
   private static final Path DOCUMENT = Path.of("../shared/DOC.md");
@@ -19,14 +19,17 @@ final class Sentences {
 
   private final Due due = new Due();
   private final String name;
+  private final String mine;
   private final Map<String, String> parts = new LinkedHashMap<>();
   private final Map<String, boolean[]> quoted = new LinkedHashMap<>();
   private String sentence = "";
   private int answers = 1;
 
-  Sentences(String name) {
+  /** The test is for the parts of the document whose numbers are of this form. */
+  Sentences(String name, String mine) {
     this.name = name;
-    if (Files.isReadable(DOCUMENT)) read();
+    this.mine = mine;
+    read();
   }
 
   private void read() {
@@ -69,7 +72,6 @@ final class Sentences {
     closeSentence();
     sentence = part + " \"" + quotation + "\": ";
     answers = 0;
-    if (parts.isEmpty()) return;
     String text = parts.getOrDefault(part, "");
     int at = text.indexOf(quotation);
     due.is(sentence + "stands in the document", at >= 0 ? 1 : 0, 1);
@@ -126,19 +128,17 @@ final class Sentences {
     return x;
   }
 
-  /** The last line of a test; all of the parts that it has begun to quote must be quoted. */
+  /** The last line of a test; all of the parts that it is for must be quoted. */
   void close() {
     closeSentence();
     sentence = "";
     for (Map.Entry<String, String> e : parts.entrySet()) {
       boolean[] seen = quoted.get(e.getKey());
-      boolean begun = false;
       StringBuilder missing = new StringBuilder();
       for (int i = 0; i < seen.length; i++) {
-        begun |= seen[i];
         if (!seen[i] && Character.isLetterOrDigit(e.getValue().charAt(i))) missing.append(e.getValue().charAt(i));
       }
-      if (begun) due.is("of " + e.getKey() + " nobody quotes '" + missing + "'", missing.length(), 0);
+      if (e.getKey().matches(mine)) due.is("of " + e.getKey() + " nobody quotes '" + missing + "'", missing.length(), 0);
     }
     due.close(name);
   }
