@@ -18,7 +18,7 @@ public final class AgainstPlainTest {
     Random r = new Random(20261118);
     int tries = args.length > 0 ? Integer.parseInt(args[0]) : 400;
     for (int i = 0; i < tries && due.wrong() == 0; i++) {
-      Plain t = Plain.random(r, i % 8);
+      Plain t = Plain.random(r, i % 14); // the largest are of 40 days, 8 people and 24 letters
       where = "town " + i + ": " + t.text() + ": ";
       OldestFirst x = Due.townOf(t.text());
       askWhatIsTold(x, t);
